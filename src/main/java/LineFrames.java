@@ -613,11 +613,6 @@ public final class LineFrames {
             this.out = out;
         }
 
-        void begin() {
-            current = 0;
-            free = 8;
-        }
-
         void code(int m, int k) {
             int zeros = m >> k;
             if (zeros < MAX_ZEROS) {
@@ -636,7 +631,8 @@ public final class LineFrames {
             if (free < 8) {
                 out.add(current << free);
             }
-            begin();
+            current = 0;
+            free = 8;
         }
 
         private void bits(int v, int count) {
@@ -731,8 +727,6 @@ public final class LineFrames {
             } else if (current == MAX_BYTE) {
                 next++;
             }
-            current = 0;
-            left = 0;
         }
 
         private int bits(int count) {
@@ -868,7 +862,6 @@ public final class LineFrames {
         private void scan(int first, int count, int near, int turn) {
             addScanHead(first, count, near, turn);
             model.begin(picture, near);
-            bits.begin();
             int restart = picture.presets.get(RESTART);
             int restarts = 0;
             int rows = 0;

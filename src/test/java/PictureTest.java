@@ -42,7 +42,9 @@ public final class PictureTest {
         x.preset(0, 7);
         x.preset(1, 8);
         x.preset(2, 9);
+        x.table(1, 0, 76);
         x.table(1, 3, 77);
+        x.table(1, 15, 78);
         x.note(5);
         x.picture(2, 2, 4, 2);
         due.same("put of a new picture", x.put(1, 1, 1, 0), 0);
@@ -51,8 +53,10 @@ public final class PictureTest {
         due.same("RESTART of a new picture", x.preset(2, 0), 0);
         due.same("NOTES of a new picture", x.told(2), 0);
         due.index("byteOf of a new picture", () -> x.byteOf(0, 1));
-        due.same("table of a new picture", x.table(1, 0, 5), -1);
+        due.same("table of a new picture", x.table(1, 7, 5), -1);
+        due.same("the first number of a new table", x.table(1, 0, 0), 0);
         due.same("a number of a new table", x.table(1, 3, 0), 0);
+        due.same("the last number of a new table", x.table(1, 15, 0), 0);
         due.same("the other table", x.table(0, 3, 0), -1);
     }
 

@@ -11,6 +11,7 @@ public final class ReadTest {
         lastOnesCount(due);
         componentsInAnyOrder(due);
         numbersBeyondTheRange(due);
+        shiftsOf12AtMost(due);
         brokenThenWhole(due);
         due.end();
     }
@@ -123,6 +124,17 @@ public final class ReadTest {
         Due.feedAll(x, Due.bytes("FFD8 FFF7 000B 02 0001 0001 01 011100 FFDA 0008 01 0100 03 00 00 A0 FFD9"));
         due.same("read() by NEAR 3", x.read(), 1);
         due.same("at by NEAR 3", x.at(0, 0, 0, false), 3);
+    }
+
+    /** By k 8 an error of -2560, so by k 11 one of -19968; then N 3 and A 22783 would want k 13. */
+    private static void shiftsOf12AtMost(Due due) {
+        LineFrames x = new LineFrames(0);
+        Due.feedAll(x, Due.bytes("FFD8 FFF7 000B 08 0001 0003 01 011100 FFF8 0005 01 40 FF"
+                + "FFDA 0008 01 0100 00 00 00 00 00 1F F0 00 01 7F F0 04 FFD9"));
+        due.same("read() by k 12", x.read(), 1);
+        due.same("at(0, 0) by k 8", x.at(0, 0, 0, false), 0);
+        due.same("at(1, 0) by k 11", x.at(0, 1, 0, false), 0);
+        due.same("at(2, 0) by k 12", x.at(0, 2, 0, false), 2);
     }
 
     private static void brokenThenWhole(Due due) {
