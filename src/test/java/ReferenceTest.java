@@ -91,7 +91,8 @@ public final class ReferenceTest {
 
     private static void altered(LineFrames x, int[] stream, Random random, int seed) {
         for (int round = 0; round < 12; round++) {
-            int[] bytes = random.nextInt(6) == 0 ? Arrays.copyOf(stream, random.nextInt(stream.length)) : stream.clone();
+            int size = random.nextInt(6) == 0 ? random.nextInt(stream.length) : stream.length;
+            int[] bytes = Arrays.copyOf(stream, size);
             x.drop();
             if (bytes.length > 0) {
                 x.pass(0, bytes.length);
