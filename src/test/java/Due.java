@@ -1,3 +1,6 @@
+import java.util.function.Consumer;
+import java.util.function.Supplier;
+
 /** Compares answers with those that are due, and ends a test. */
 final class Due {
     private final String name;
@@ -42,11 +45,27 @@ final class Due {
         fails(call, UnsupportedOperationException.class, run);
     }
 
+    /** The call throws, and all that can be asked of the object is as without the call. */
+    void refused(String call, Class<? extends RuntimeException> want, Supplier<LineFrames> make,
+            Consumer<LineFrames> run) {
+        LineFrames x = make.get();
+        fails(call, want, () -> run.accept(x));
+        String after = State.of(x);
+        String without = State.of(make.get());
+        if (!after.equals(without)) {
+            fault(call + " threw, and left " + after + ", due is " + without);
+        }
+    }
+
     void fault(String text) {
         wrong++;
         if (wrong <= 20) {
             System.out.println(name + ": " + text);
         }
+    }
+
+    int wrong() {
+        return wrong;
     }
 
     void end() {
@@ -75,7 +94,8 @@ final class Due {
     /** What was written, in base 16. */
     static String written(LineFrames x) {
         StringBuilder text = new StringBuilder();
-        for (int i = 0; i < x.told(3); i++) {
+        int size = x.told(3);
+        for (int i = 0; i < size; i++) {
             text.append(String.format("%02X", x.byteAt(i)));
         }
         return text.toString();
