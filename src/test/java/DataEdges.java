@@ -51,6 +51,8 @@ final class DataEdges {
         edges.edge(8, "the lesser of a and b, if c is not below both", DataEdges::lesser);
         edges.edge(8, "the greater one, if c is not above both", DataEdges::greater);
         edges.edge(8, "else a + b - c.", DataEdges::between);
+        edges.edge(8, "For each component there are a sum A and a number N, at first START and 1",
+                DataEdges::eachForItself);
         edges.edge(8, "and what its samples are told as.", DataEdges::toldAs);
     }
 
@@ -100,6 +102,22 @@ final class DataEdges {
     private static void between(Due due) {
         square(due, "000000001 101 0010 10", 4, 3, 6, 5);
         square(due, "000000001 0100 101 10", 4, 6, 3, 5);
+    }
+
+    /** 0 and 1 by START 8, k 3; behind the 0 of the same component k would be 2. */
+    private static void eachForItself(Due due) {
+        for (int turn = 0; turn <= 2; turn++) {
+            LineFrames x = new LineFrames(turn);
+            x.picture(1, 1, 4, 2);
+            x.preset(1, 8);
+            x.put(1, 0, 0, 1);
+            x.write(0);
+            String scans = turn == 0
+                    ? Parts.scan(0, 0, 1) + Parts.bits("1000") + Parts.scan(0, 0, 2) + Parts.bits("1010")
+                    : Parts.scan(0, turn, 1, 2) + Parts.bits("1000 1010");
+            due.stream("0 and 1 by TURN " + turn, x, Parts.BEGIN + Parts.frame(1, 1, 4, 2) + Parts.presets(64, 8)
+                    + scans + Parts.END);
+        }
     }
 
     /** By NEAR 1 the sample 10 is told as 9: so 8 is near enough, though 10 would want an error. */
