@@ -31,6 +31,7 @@ final class AnswerEdges {
         edges.edge(14, "A sample of what was READ", AnswerEdges::cornersOfTheLargest);
         edges.edge(14, NO_SUCH, AnswerEdges::noSuchSample);
         edges.edge(14, "meant: what it stands for by its component's TABLE, if it has one.", AnswerEdges::meant);
+        edges.edge(14, "what it stands for by its component's TABLE", AnswerEdges::tablesInAnyOrder);
         edges.edge(14, NOTHING_READ, AnswerEdges::sampleOfNothing);
         edges.edge(14, FIRST_ONE, due ->
                 due.refused("nothing read, no sample", STATE, State::fresh, x -> x.at(-1, -1, -1, true)));
@@ -89,6 +90,30 @@ final class AnswerEdges {
         x.picture(2, 1, 8, 3);
         readWritten(x, 0);
         due.same("a TABLE of an earlier reading", x.at(1, 0, 0, true), 0);
+    }
+
+    /** The largest TABLES, the last one first and last: each has its own first and last number. */
+    private static void tablesInAnyOrder(Due due) {
+        int[][] orders = {{4, 3, 2, 1}, {1, 2, 3, 4}};
+        for (int[] order : orders) {
+            StringBuilder stream = new StringBuilder(Parts.BEGIN + Parts.frame(2, 1, 8, 4));
+            for (int number : order) {
+                int[] numbers = new int[256];
+                numbers[0] = 1000 + number;
+                numbers[255] = 2000 + number;
+                stream.append(Parts.table(number, numbers));
+            }
+            // Each component has 0 by k 2, and 255, which is told as 1 less, by k 1.
+            stream.append(Parts.scan(0, 1, 1, 2, 3, 4)).append(Parts.bits("100 11".repeat(4)));
+            LineFrames x = new LineFrames(0);
+            Due.feedAll(x, Due.bytes(stream + Parts.END));
+            due.same("read()", x.read(), 4);
+            for (int c = 0; c < 4; c++) {
+                due.same("the sample 0 of " + c, x.at(c, 0, 0, true), 1001 + c);
+                due.same("the sample 255 of " + c, x.at(c, 1, 0, true), 2001 + c);
+                due.same("not meant", x.at(c, 1, 0, false), 255);
+            }
+        }
     }
 
     private static void sampleOfNothing(Due due) {

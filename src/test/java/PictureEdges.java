@@ -332,6 +332,7 @@ final class PictureEdges {
 
     private static void tables(Edges edges) {
         edges.edge(5, "for each sample a number 0 .. 65535, at first 0.", PictureEdges::numbers);
+        edges.edge(5, "What a sample stands for in a component: what it was before", PictureEdges::tablesApart);
         edges.edge(5, "NONE if it had no TABLE.", PictureEdges::noTable);
         edges.edge(5, "from is no sample", PictureEdges::noSampleOfTable);
         edges.edge(5, "to no such number", PictureEdges::noNumberOfTable);
@@ -357,6 +358,31 @@ final class PictureEdges {
                 due.same("a number 0", x.table(c, 0, 9), 0);
                 due.same("the last sample's number", x.table(c, 255, 65535), c + 1);
             }
+        }
+    }
+
+    /** The first TABLE comes last, and leaves the first and the last numbers of the others alone. */
+    private static void tablesApart(Due due) {
+        LineFrames x = new LineFrames(0);
+        x.picture(1, 1, 8, 4);
+        for (int i = 0; i < 4; i++) {
+            int c = (i + 2) % 4;
+            due.same("the first number of a new TABLE", x.table(c, 0, 1000 + c), -1);
+            due.same("its last number", x.table(c, 255, 2000 + c), 0);
+        }
+        for (int c = 0; c < 4; c++) {
+            due.same("the first number of " + c, x.table(c, 0, 0), 1000 + c);
+            due.same("the last number of " + c, x.table(c, 255, 0), 2000 + c);
+        }
+        LineFrames y = new LineFrames(0);
+        y.picture(1, 1, 8, 4);
+        for (int c = 3; c >= 0; c--) {
+            y.table(c, 0, 1000 + c);
+            y.table(c, 255, 2000 + c);
+        }
+        for (int c = 0; c < 4; c++) {
+            due.same("the first number of " + c + ", the last one first", y.table(c, 0, 0), 1000 + c);
+            due.same("the last number of " + c + ", the last one first", y.table(c, 255, 0), 2000 + c);
         }
     }
 
