@@ -131,8 +131,8 @@ final class DataEdges {
         edges.edge(8, "if above 0: it and NEAR, by STEP, rounded down; else as much below 0 by what it is less",
                 DataEdges::roundedByStep);
         edges.edge(8, "brought to 0 .. TOP; then the ERROR", DataEdges::broughtToBounds);
-        edges.edge(8, "the ERROR gets RANGE more if below 0, and then RANGE less if not below (RANGE + 1) / 2",
-                DataEdges::turnedByRange);
+        edges.edge(8, "the ERROR gets RANGE more if below 0, and then RANGE less if not below (RANGE + 1) / 2, "
+                + "rounded down.", DataEdges::turnedByRange);
         edges.edge(8, "RANGE (TOP + 2 NEAR) / STEP, rounded down, and 1", DataEdges::oddRange);
         edges.edge(8, "m: 2 ERROR, or -2 ERROR - 1 if below 0", DataEdges::signs);
     }

@@ -1,4 +1,4 @@
-/** All promises: the boundary cases that the document names, a test for each sentence. */
+/** All promises: a case for each sentence of the document, above all for those that name a boundary. */
 public final class EdgesTest {
     public static void main(String[] args) throws java.io.IOException {
         Edges edges = new Edges();
@@ -10,6 +10,7 @@ public final class EdgesTest {
         MarkEdges.all(edges);
         ReadEdges.all(edges);
         AnswerEdges.all(edges);
+        TermEdges.all(edges);
         edges.end();
     }
 }

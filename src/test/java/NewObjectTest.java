@@ -1,4 +1,4 @@
-/** Promise 1: a new object; and the face with its constant. */
+/** Promise 1: a new object; and the constant. */
 public final class NewObjectTest {
     public static void main(String[] args) {
         Due due = new Due("NewObjectTest");
@@ -8,7 +8,6 @@ public final class NewObjectTest {
         }
         due.same("NONE", LineFrames.NONE, -1);
         nothingIsThere(due);
-        onlyTheFaceIsSeen(due);
         due.end();
     }
 
@@ -29,25 +28,5 @@ public final class NewObjectTest {
         due.index("byteAt", () -> x.byteAt(0));
         due.index("pass", () -> x.pass(0, -1));
         due.index("alter", () -> x.alter(0, 256));
-    }
-
-    private static void onlyTheFaceIsSeen(Due due) {
-        due.same("public methods", LineFrames.class.getMethods().length - Object.class.getMethods().length, 17);
-        due.same("public constructors", LineFrames.class.getConstructors().length, 1);
-        due.same("all constructors", LineFrames.class.getDeclaredConstructors().length, 1);
-        due.same("public fields", LineFrames.class.getFields().length, 1);
-        for (java.lang.reflect.Method m : LineFrames.class.getDeclaredMethods()) {
-            boolean open = java.lang.reflect.Modifier.isPublic(m.getModifiers());
-            boolean closed = java.lang.reflect.Modifier.isPrivate(m.getModifiers());
-            if (!open && !closed && !m.isSynthetic()) {
-                due.fault("seen in the package: " + m);
-            }
-        }
-        for (java.lang.reflect.Field f : LineFrames.class.getDeclaredFields()) {
-            boolean constant = f.getName().equals("NONE");
-            if (!constant && !java.lang.reflect.Modifier.isPrivate(f.getModifiers())) {
-                due.fault("seen outside: " + f);
-            }
-        }
     }
 }

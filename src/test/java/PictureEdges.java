@@ -334,7 +334,7 @@ final class PictureEdges {
         edges.edge(5, "for each sample a number 0 .. 65535, at first 0.", PictureEdges::numbers);
         edges.edge(5, "What a sample stands for in a component: what it was before", PictureEdges::tablesApart);
         edges.edge(5, "NONE if it had no TABLE.", PictureEdges::noTable);
-        edges.edge(5, "from is no sample", PictureEdges::noSampleOfTable);
+        edges.edge(5, "IllegalArgument: from is no sample", PictureEdges::noSampleOfTable);
         edges.edge(5, "to no such number", PictureEdges::noNumberOfTable);
         edges.edge(5, NO_SUCH, PictureEdges::noComponentOfTable);
         edges.edge(5, NO_PICTURE, due ->
